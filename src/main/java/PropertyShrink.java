@@ -189,7 +189,7 @@ public final class PropertyShrink {
     public int all(int generator, int most) {
         Generator g = generatorAt(generator);
         if (g == null || most < 1 || most > MOST_ROWS) {
-            return -1;
+            return NONE;
         }
         rowsSum = 0;
         int count = 0;
@@ -414,16 +414,12 @@ public final class PropertyShrink {
             return count;
         }
 
-        private boolean isPlace(int i) {
-            return i >= 0 && i < count && i < items.length;
-        }
-
         int at(int i, int otherwise) {
-            return isPlace(i) ? items[i] : otherwise;
+            return i >= 0 && i < count && i < items.length ? items[i] : otherwise;
         }
 
         void set(int i, int item) {
-            if (isPlace(i)) {
+            if (i >= 0 && i < count && i < items.length) {
                 items[i] = item;
             }
         }
@@ -546,11 +542,7 @@ public final class PropertyShrink {
             return false;
         }
 
-        int drawUpTo(int most) {
-            return draw(most, most + 1);
-        }
-
-        /** A draw up to most; by a seed only among the first so many choices. */
+        /** A draw up to most; by a seed, of the first span choices alone. */
         int draw(int most, int span) {
             if (ill) {
                 return 0;
@@ -611,7 +603,6 @@ public final class PropertyShrink {
             this.high = high;
         }
 
-        @Override
         void give(Draws draws) {
             int most = high - low;
             draws.giveNumber(low + draws.draw(most, draws.sizedSpan(most)));
@@ -628,9 +619,8 @@ public final class PropertyShrink {
             this.most = most;
         }
 
-        @Override
         void give(Draws draws) {
-            for (int made = 0; made < most && draws.drawUpTo(1) == 1; made++) {
+            for (int made = 0; made < most && draws.draw(1, 2) == 1; made++) {
                 part.give(draws);
             }
         }
@@ -646,7 +636,6 @@ public final class PropertyShrink {
             this.second = second;
         }
 
-        @Override
         void give(Draws draws) {
             first.give(draws);
             if (!draws.ill) {
@@ -665,9 +654,8 @@ public final class PropertyShrink {
             this.second = second;
         }
 
-        @Override
         void give(Draws draws) {
-            int side = draws.drawUpTo(1);
+            int side = draws.draw(1, 2);
             if (draws.ill) {
                 return;
             }
@@ -689,7 +677,6 @@ public final class PropertyShrink {
             this.parity = parity;
         }
 
-        @Override
         void give(Draws draws) {
             int start = draws.numbers.length();
             for (int round = 0; round < KEEP_ROUNDS && !draws.ill; round++) {
@@ -713,7 +700,6 @@ public final class PropertyShrink {
             this.more = more;
         }
 
-        @Override
         void give(Draws draws) {
             int start = draws.numbers.length();
             part.give(draws);

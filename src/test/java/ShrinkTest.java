@@ -16,6 +16,7 @@ public final class ShrinkTest {
         lowering();
         loweringByOne();
         swapping();
+        swappingInThrees();
         dropping();
         dropsOfEightAndFour();
         leftOut();
@@ -137,10 +138,37 @@ public final class ShrinkTest {
         shrinks("3 1", found(maker, 1, 3, 1), 14, 2, false, 0, 3);
         shrinks("3 1", found(maker, 1, 3, 1), 20, 2, false, 0, 3);
         shrinks("3 1", found(maker, 1, 3, 1), 21, 2, true, 0, 3);
-        // Of like ones none is swapped: three drops and three lowerings each, and 3 0 goes before them.
-        PropertyShrink x = found(maker, 1, 3, 3);
-        due.is("3 3", x.shrink(4), 1);
-        due.rowIs("3 3", x, 0, 3);
+        // [2 2], to stay above 3: three drops, two lowerings each; like ones aren't swapped.
+        Maker like = () -> pair(0, 3);
+        shrinks("2 2", found(like, 1, 2, 2), 7, 0, false, 2, 2);
+        shrinks("2 2", found(like, 1, 2, 2), 8, 0, true, 2, 2);
+    }
+
+    private static PropertyShrink three(int second, int k) {
+        PropertyShrink x = new PropertyShrink();
+        x.generator(0, 0, 9);
+        x.generator(0, 0, second);
+        x.generator(2, 1, 1);
+        x.generator(2, 0, 2);
+        x.property(0, k, 0);
+        return x;
+    }
+
+    private static void swappingInThrees() {
+        // [3 2 1], to stay above 5: five drops and six lowerings don't go, each swap does.
+        Maker sums = () -> three(9, 5);
+        shrinks("3 2 1", found(sums, 3, 3, 2, 1), 11, 0, false, 3, 2, 1);
+        shrinks("3 2 1", found(sums, 3, 3, 2, 1), 12, 1, false, 2, 3, 1);
+        shrinks("3 2 1", found(sums, 3, 3, 2, 1), 24, 2, false, 2, 1, 3);
+        shrinks("3 2 1", found(sums, 3, 3, 2, 1), 36, 3, false, 1, 2, 3);
+        shrinks("3 2 1", found(sums, 3, 3, 2, 1), 47, 3, false, 1, 2, 3);
+        shrinks("3 2 1", found(sums, 3, 3, 2, 1), 48, 3, true, 1, 2, 3);
+        // [3 1 0], to stay above 3: five drops, four lowerings, and a 3 in the second place is ill.
+        Maker low = () -> three(1, 3);
+        shrinks("3 1 0", found(low, 3, 3, 1, 0), 10, 0, false, 3, 1, 0);
+        shrinks("3 1 0", found(low, 3, 3, 1, 0), 11, 1, false, 3, 0, 1);
+        shrinks("3 1 0", found(low, 3, 3, 1, 0), 21, 1, false, 3, 0, 1);
+        shrinks("3 1 0", found(low, 3, 3, 1, 0), 22, 1, true, 3, 0, 1);
     }
 
     /** [1 0 1 0 0], to have an item: [0] has none, [1] is ill, then the drop of two at 0 goes. */
