@@ -18,24 +18,6 @@ public final class CheckTest {
         due.end();
     }
 
-    /** The document's states, held here once more. */
-    private static final class Seeded {
-        private long x;
-
-        Seeded(long seed) {
-            x = seed;
-        }
-
-        int upTo(int m) {
-            x = x * 6364136223846793005L + 1442695040888963407L;
-            return (int) ((x >>> 33) % (m + 1));
-        }
-
-        int sized(int m, int z) {
-            return upTo(m > z + 1 ? z + 1 : m);
-        }
-    }
-
     private static void noneSuch() {
         PropertyShrink x = new PropertyShrink();
         x.generator(0, 0, 9);
@@ -293,7 +275,7 @@ public final class CheckTest {
         x.generator(1, 0, 9);
         x.property(0, 5, 1);
         due.is("found", x.check(1, 0, 11, 60), -1);
-        int[] found = rowOf(x);
+        int[] found = Found.rowOf(x);
         int sum = 0;
         for (int i = 0; i < x.size(1); i++) {
             sum += x.number(i);
@@ -313,14 +295,6 @@ public final class CheckTest {
         due.is("the first once more", x.check(1, 0, -5, 2), -1);
         due.rowIs("the first once more", x, found);
         due.is("two are kept", x.size(2), 2);
-    }
-
-    private static int[] rowOf(PropertyShrink x) {
-        int[] row = new int[x.size(0)];
-        for (int i = 0; i < row.length; i++) {
-            row[i] = x.choice(i);
-        }
-        return row;
     }
 
     private static void eachPairKeepsItsOwn() {

@@ -2,12 +2,18 @@
 final class Due {
     private int asked;
     private int wrong;
+    private String sentence = "";
+
+    /** What is looked at from here on is due by this sentence of the document. */
+    void by(String newSentence) {
+        sentence = "'" + newSentence + "': ";
+    }
 
     void is(String call, long got, long want) {
         asked++;
         if (got != want) {
             wrong++;
-            System.out.println(call + " answered " + got + ", due is " + want);
+            System.out.println(sentence + call + " answered " + got + ", due is " + want);
         }
     }
 

@@ -1,14 +1,9 @@
-import java.util.Arrays;
+import java.util.function.Supplier;
 
 /** Promises 5 and 6: shrink and least. Each run is reckoned by hand, step by step. */
 public final class ShrinkTest {
     private static final int NONE = PropertyShrink.NONE;
     private static final Due due = new Due();
-
-    /** Makes an object with the generators and the one property that a run is about. */
-    private interface Maker {
-        PropertyShrink make();
-    }
 
     public static void main(String[] args) {
         wrongOnes();
@@ -26,26 +21,6 @@ public final class ShrinkTest {
         goesOnWhereItWas();
         numbersAreTheRowsAgain();
         due.end();
-    }
-
-    /** An object whose check of the generator found just this row, by whatever seed does it. */
-    private static PropertyShrink found(Maker maker, int generator, int... row) {
-        for (long seed = 0; seed < 2_000_000; seed++) {
-            PropertyShrink x = maker.make();
-            if (x.check(generator, 0, seed, 60) == -1 && x.size(0) == row.length && hasRow(x, row)) {
-                return x;
-            }
-        }
-        throw new IllegalStateException("no seed finds " + Arrays.toString(row));
-    }
-
-    private static boolean hasRow(PropertyShrink x, int[] row) {
-        for (int i = 0; i < row.length; i++) {
-            if (x.choice(i) != row[i]) {
-                return false;
-            }
-        }
-        return true;
     }
 
     private static PropertyShrink pair(int kind, int k) {
@@ -92,56 +67,56 @@ public final class ShrinkTest {
 
     /** [1 1]: three drops are ill, the fourth step lowers. */
     private static void triesOfAPair() {
-        Maker maker = () -> pair(3, 0);
-        shrinks("pair", found(maker, 1, 1, 1), 3, 0, false, 1, 1);
-        shrinks("pair", found(maker, 1, 1, 1), 4, 1, false, 0, 1);
-        shrinks("pair", found(maker, 1, 1, 1), 7, 1, false, 0, 1);
-        shrinks("pair", found(maker, 1, 1, 1), 8, 2, false, 0, 0);
-        shrinks("pair", found(maker, 1, 1, 1), 11, 2, false, 0, 0);
-        shrinks("pair", found(maker, 1, 1, 1), 12, 2, true, 0, 0);
-        shrinks("pair", found(maker, 1, 1, 1), 400, 2, true, 0, 0);
+        Supplier<PropertyShrink> maker = () -> pair(3, 0);
+        shrinks("pair", Found.row(maker, 1, 1, 1), 3, 0, false, 1, 1);
+        shrinks("pair", Found.row(maker, 1, 1, 1), 4, 1, false, 0, 1);
+        shrinks("pair", Found.row(maker, 1, 1, 1), 7, 1, false, 0, 1);
+        shrinks("pair", Found.row(maker, 1, 1, 1), 8, 2, false, 0, 0);
+        shrinks("pair", Found.row(maker, 1, 1, 1), 11, 2, false, 0, 0);
+        shrinks("pair", Found.row(maker, 1, 1, 1), 12, 2, true, 0, 0);
+        shrinks("pair", Found.row(maker, 1, 1, 1), 400, 2, true, 0, 0);
     }
 
     /** [12], to stay above 5: dropped, 0, 6 goes; dropped, 0, 3, 5: none goes. */
     private static void lowering() {
-        Maker maker = () -> single(5);
-        shrinks("12", found(maker, 0, 12), 2, 0, false, 12);
-        shrinks("12", found(maker, 0, 12), 3, 1, false, 6);
-        shrinks("12", found(maker, 0, 12), 7, 1, false, 6);
-        shrinks("12", found(maker, 0, 12), 8, 1, true, 6);
-        shrinks("13 halves down", found(maker, 0, 13), 3, 1, false, 6);
+        Supplier<PropertyShrink> maker = () -> single(5);
+        shrinks("12", Found.row(maker, 0, 12), 2, 0, false, 12);
+        shrinks("12", Found.row(maker, 0, 12), 3, 1, false, 6);
+        shrinks("12", Found.row(maker, 0, 12), 7, 1, false, 6);
+        shrinks("12", Found.row(maker, 0, 12), 8, 1, true, 6);
+        shrinks("13 halves down", Found.row(maker, 0, 13), 3, 1, false, 6);
     }
 
     /** [11]: dropped, 0, 5, and 10 goes; so on by one. A 2 and a 1 have fewer ways. */
     private static void loweringByOne() {
-        Maker maker = () -> single(5);
-        shrinks("11", found(maker, 0, 11), 3, 0, false, 11);
-        shrinks("11", found(maker, 0, 11), 4, 1, false, 10);
-        shrinks("11", found(maker, 0, 11), 20, 5, false, 6);
-        shrinks("11", found(maker, 0, 11), 24, 5, false, 6);
-        shrinks("11", found(maker, 0, 11), 25, 5, true, 6);
+        Supplier<PropertyShrink> maker = () -> single(5);
+        shrinks("11", Found.row(maker, 0, 11), 3, 0, false, 11);
+        shrinks("11", Found.row(maker, 0, 11), 4, 1, false, 10);
+        shrinks("11", Found.row(maker, 0, 11), 20, 5, false, 6);
+        shrinks("11", Found.row(maker, 0, 11), 24, 5, false, 6);
+        shrinks("11", Found.row(maker, 0, 11), 25, 5, true, 6);
         // Of a 2: dropped, 0, 1. Of a 1: dropped, 0. Of a 3: dropped, 0, 1, 2.
-        shrinks("2", found(() -> single(1), 0, 2), 3, 0, false, 2);
-        shrinks("2", found(() -> single(1), 0, 2), 4, 0, true, 2);
-        shrinks("1", found(() -> single(0), 0, 1), 2, 0, false, 1);
-        shrinks("1", found(() -> single(0), 0, 1), 3, 0, true, 1);
-        shrinks("3", found(() -> single(2), 0, 3), 4, 0, false, 3);
-        shrinks("3", found(() -> single(2), 0, 3), 5, 0, true, 3);
+        shrinks("2", Found.row(() -> single(1), 0, 2), 3, 0, false, 2);
+        shrinks("2", Found.row(() -> single(1), 0, 2), 4, 0, true, 2);
+        shrinks("1", Found.row(() -> single(0), 0, 1), 2, 0, false, 1);
+        shrinks("1", Found.row(() -> single(0), 0, 1), 3, 0, true, 1);
+        shrinks("3", Found.row(() -> single(2), 0, 3), 4, 0, false, 3);
+        shrinks("3", Found.row(() -> single(2), 0, 3), 5, 0, true, 3);
     }
 
     /** [3 1], with a 3: three drops, 0 1 2 for the 3, then [3 0] goes; six, then the swap goes. */
     private static void swapping() {
-        Maker maker = () -> pair(1, 3);
-        shrinks("3 1", found(maker, 1, 3, 1), 6, 0, false, 3, 1);
-        shrinks("3 1", found(maker, 1, 3, 1), 7, 1, false, 3, 0);
-        shrinks("3 1", found(maker, 1, 3, 1), 13, 1, false, 3, 0);
-        shrinks("3 1", found(maker, 1, 3, 1), 14, 2, false, 0, 3);
-        shrinks("3 1", found(maker, 1, 3, 1), 20, 2, false, 0, 3);
-        shrinks("3 1", found(maker, 1, 3, 1), 21, 2, true, 0, 3);
+        Supplier<PropertyShrink> maker = () -> pair(1, 3);
+        shrinks("3 1", Found.row(maker, 1, 3, 1), 6, 0, false, 3, 1);
+        shrinks("3 1", Found.row(maker, 1, 3, 1), 7, 1, false, 3, 0);
+        shrinks("3 1", Found.row(maker, 1, 3, 1), 13, 1, false, 3, 0);
+        shrinks("3 1", Found.row(maker, 1, 3, 1), 14, 2, false, 0, 3);
+        shrinks("3 1", Found.row(maker, 1, 3, 1), 20, 2, false, 0, 3);
+        shrinks("3 1", Found.row(maker, 1, 3, 1), 21, 2, true, 0, 3);
         // [2 2], to stay above 3: three drops, two lowerings each; like ones aren't swapped.
-        Maker like = () -> pair(0, 3);
-        shrinks("2 2", found(like, 1, 2, 2), 7, 0, false, 2, 2);
-        shrinks("2 2", found(like, 1, 2, 2), 8, 0, true, 2, 2);
+        Supplier<PropertyShrink> like = () -> pair(0, 3);
+        shrinks("2 2", Found.row(like, 1, 2, 2), 7, 0, false, 2, 2);
+        shrinks("2 2", Found.row(like, 1, 2, 2), 8, 0, true, 2, 2);
     }
 
     private static PropertyShrink three(int second, int k) {
@@ -156,45 +131,45 @@ public final class ShrinkTest {
 
     private static void swappingInThrees() {
         // [3 2 1], to stay above 5: five drops and six lowerings don't go, each swap does.
-        Maker sums = () -> three(9, 5);
-        shrinks("3 2 1", found(sums, 3, 3, 2, 1), 11, 0, false, 3, 2, 1);
-        shrinks("3 2 1", found(sums, 3, 3, 2, 1), 12, 1, false, 2, 3, 1);
-        shrinks("3 2 1", found(sums, 3, 3, 2, 1), 24, 2, false, 2, 1, 3);
-        shrinks("3 2 1", found(sums, 3, 3, 2, 1), 36, 3, false, 1, 2, 3);
-        shrinks("3 2 1", found(sums, 3, 3, 2, 1), 47, 3, false, 1, 2, 3);
-        shrinks("3 2 1", found(sums, 3, 3, 2, 1), 48, 3, true, 1, 2, 3);
+        Supplier<PropertyShrink> sums = () -> three(9, 5);
+        shrinks("3 2 1", Found.row(sums, 3, 3, 2, 1), 11, 0, false, 3, 2, 1);
+        shrinks("3 2 1", Found.row(sums, 3, 3, 2, 1), 12, 1, false, 2, 3, 1);
+        shrinks("3 2 1", Found.row(sums, 3, 3, 2, 1), 24, 2, false, 2, 1, 3);
+        shrinks("3 2 1", Found.row(sums, 3, 3, 2, 1), 36, 3, false, 1, 2, 3);
+        shrinks("3 2 1", Found.row(sums, 3, 3, 2, 1), 47, 3, false, 1, 2, 3);
+        shrinks("3 2 1", Found.row(sums, 3, 3, 2, 1), 48, 3, true, 1, 2, 3);
         // [3 1 0], to stay above 3: five drops, four lowerings, and a 3 in the second place is ill.
-        Maker low = () -> three(1, 3);
-        shrinks("3 1 0", found(low, 3, 3, 1, 0), 10, 0, false, 3, 1, 0);
-        shrinks("3 1 0", found(low, 3, 3, 1, 0), 11, 1, false, 3, 0, 1);
-        shrinks("3 1 0", found(low, 3, 3, 1, 0), 21, 1, false, 3, 0, 1);
-        shrinks("3 1 0", found(low, 3, 3, 1, 0), 22, 1, true, 3, 0, 1);
+        Supplier<PropertyShrink> low = () -> three(1, 3);
+        shrinks("3 1 0", Found.row(low, 3, 3, 1, 0), 10, 0, false, 3, 1, 0);
+        shrinks("3 1 0", Found.row(low, 3, 3, 1, 0), 11, 1, false, 3, 0, 1);
+        shrinks("3 1 0", Found.row(low, 3, 3, 1, 0), 21, 1, false, 3, 0, 1);
+        shrinks("3 1 0", Found.row(low, 3, 3, 1, 0), 22, 1, true, 3, 0, 1);
     }
 
     /** [1 0 1 0 0], to have an item: [0] has none, [1] is ill, then the drop of two at 0 goes. */
     private static void dropping() {
-        Maker maker = () -> list(0, 3, 1, 0);
-        shrinks("list", found(maker, 1, 1, 0, 1, 0, 0), 2, 0, false, 1, 0, 1, 0, 0);
-        shrinks("list", found(maker, 1, 1, 0, 1, 0, 0), 3, 1, false, 1, 0, 0);
+        Supplier<PropertyShrink> maker = () -> list(0, 3, 1, 0);
+        shrinks("list", Found.row(maker, 1, 1, 0, 1, 0, 0), 2, 0, false, 1, 0, 1, 0, 0);
+        shrinks("list", Found.row(maker, 1, 1, 0, 1, 0, 0), 3, 1, false, 1, 0, 0);
         // Then [0], [1], [0 0], [1 0], [1 0], [0 0 0] and the swapped [0 1 0]: none goes.
-        shrinks("list", found(maker, 1, 1, 0, 1, 0, 0), 10, 1, false, 1, 0, 0);
-        shrinks("list", found(maker, 1, 1, 0, 1, 0, 0), 11, 1, true, 1, 0, 0);
+        shrinks("list", Found.row(maker, 1, 1, 0, 1, 0, 0), 10, 1, false, 1, 0, 0);
+        shrinks("list", Found.row(maker, 1, 1, 0, 1, 0, 0), 11, 1, true, 1, 0, 0);
     }
 
     /** Five items of one value, to have one: the drop of eight from 0, then from 1 and 2, then of four. */
     private static void dropsOfEightAndFour() {
-        Maker maker = () -> list(0, 3, 1, 0);
+        Supplier<PropertyShrink> maker = () -> list(0, 3, 1, 0);
         int[] five = {1, 0, 1, 0, 1, 0, 1, 0, 1, 0, 0};
-        shrinks("five items", found(maker, 1, five), 1, 1, false, 1, 0, 0);
+        shrinks("five items", Found.row(maker, 1, five), 1, 1, false, 1, 0, 0);
         int[] four = {1, 0, 1, 0, 1, 0, 1, 0, 0};
         // Of nine choices: eight from 0 leave [0], from 1 leave [1]; four from 0 leave two items.
-        shrinks("four items", found(maker, 1, four), 2, 0, false, four);
-        shrinks("four items", found(maker, 1, four), 3, 1, false, 1, 0, 1, 0, 0);
+        shrinks("four items", Found.row(maker, 1, four), 2, 0, false, four);
+        shrinks("four items", Found.row(maker, 1, four), 3, 1, false, 1, 0, 1, 0, 0);
     }
 
     /** [1 2 2] is the pair 5 5; with 0 at first it is a 5 alone, and the last choice is left out. */
     private static void leftOut() {
-        Maker maker = () -> {
+        Supplier<PropertyShrink> maker = () -> {
             PropertyShrink x = new PropertyShrink();
             x.generator(0, 3, 9);
             x.generator(2, 0, 0);
@@ -202,15 +177,15 @@ public final class ShrinkTest {
             x.property(1, 5, 0);
             return x;
         };
-        shrinks("one of", found(maker, 2, 1, 2, 2), 5, 0, false, 1, 2, 2);
-        PropertyShrink x = found(maker, 2, 1, 2, 2);
+        shrinks("one of", Found.row(maker, 2, 1, 2, 2), 5, 0, false, 1, 2, 2);
+        PropertyShrink x = Found.row(maker, 2, 1, 2, 2);
         shrinks("one of", x, 6, 1, false, 0, 2);
         due.numbersAre("one of", x, 5);
     }
 
     private static void thrownStaysThrown() {
-        Maker maker = () -> pair(4, 3);
-        PropertyShrink x = found(maker, 1, 3, 1);
+        Supplier<PropertyShrink> maker = () -> pair(4, 3);
+        PropertyShrink x = Found.row(maker, 1, 3, 1);
         shrinks("thrown", x, 20, 2, false, 0, 3);
         due.numbersAre("thrown", x, 0, 3);
         shrinks("thrown", x, 7, 0, true, 0, 3);
@@ -218,7 +193,7 @@ public final class ShrinkTest {
 
     /** Two items are wanted at least: one alone is discarded, though its sum would fail. */
     private static void discardedDoesNotGo() {
-        PropertyShrink x = found(() -> list(1, 0, 0, 2), 1, 1, 1, 1, 1, 0);
+        PropertyShrink x = Found.row(() -> list(1, 0, 0, 2), 1, 1, 1, 1, 1, 0);
         due.is("shrinks", x.shrink(400) > 0, true);
         due.is("least", x.least(), true);
         due.rowIs("two items stay", x, 1, 0, 1, 1, 0);
@@ -237,7 +212,7 @@ public final class ShrinkTest {
     }
 
     private static void goesOnWhereItWas() {
-        PropertyShrink x = found(() -> single(5), 0, 11);
+        PropertyShrink x = Found.row(() -> single(5), 0, 11);
         for (int left = 10; left >= 6; left--) {
             shrinks("by fours", x, 4, 1, false, left);
         }
@@ -253,7 +228,7 @@ public final class ShrinkTest {
     }
 
     private static void numbersAreTheRowsAgain() {
-        PropertyShrink x = found(() -> single(5), 0, 6);
+        PropertyShrink x = Found.row(() -> single(5), 0, 6);
         due.is("replay", Due.replayOf(x, 0, 0, 3), 0);
         due.numbersAre("replayed", x, 3);
         due.is("wrong shrink", x.shrink(401), NONE);
